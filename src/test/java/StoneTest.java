@@ -74,6 +74,9 @@ final class StoneTest {
         cut(x, 11, 0, 2);
         cut(x, 20, 0, 2);
         cut(x, 30, 0, 3);
+        x.setPrice(1, 2);
+        Check.due("fewestPieces(3) of new prices", 3, () -> x.fewestPieces(3));
+        Check.due("fewestPieces(3) first", 1, () -> new StoneQuarry().fewestPieces(3));
         StoneQuarry even = new StoneQuarry();
         for (int length = 1; length <= 10; length++) {
             even.setPrice(length, 3 * length);

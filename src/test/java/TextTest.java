@@ -109,6 +109,11 @@ final class TextTest {
         wrongAt(12, "rock 0 0 1;d");
         wrongAt(14, "rock 0 0 1;digx");
         wrongAt(8, "ignite 01");
+        wrongAt(8, "remove 00");
+        wrongAt(8, "charge 00 0 1");
+        wrongAt(10, "charge 0 00 1");
+        wrongAt(12, "charge 0 0 12");
+        wrongAt(5, "dig 00 0");
         wrongAt(8, "remove 1 1");
         wrongAt(5, "sell x");
         wrongAt(5, "sell -1");

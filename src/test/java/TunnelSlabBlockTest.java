@@ -5,6 +5,8 @@ final class TunnelSlabBlockTest {
         slabs();
         blocks();
         unchanged();
+        askedAgain();
+        askedFirst();
         Check.end();
     }
 
@@ -64,6 +66,46 @@ final class TunnelSlabBlockTest {
         block(8, Check.wall("555.55", "55..55", "5....5", "5....5", "555555", "......"));
         block(9, Check.wall("...555", "...555", "......", "555...", "555..5", "555..5"));
         block(4, Check.wall("555555", "555555", "555555", "555555", "5555..", "5555.."));
+    }
+
+    /** What one call found out must not reach the next one. */
+    private static void askedAgain() {
+        StoneQuarry x = Check.wall("......", "......", "......", "......", "......", "......");
+        for (int round = 0; round < 2; round++) {
+            tunnel(0, x);
+            slab(18, x);
+            block(36, x);
+        }
+        StoneQuarry y = Check.rich();
+        tunnel(5, y);
+        y.save();
+        y.dig(0, 5);
+        tunnel(0, y);
+        slab(7, y);
+        block(9, y);
+        y.restore();
+        tunnel(5, y);
+        slab(6, y);
+        block(9, y);
+        y.setHardness(0, 5, 9);
+        tunnel(9, y);
+        block(9, y);
+    }
+
+    /** Each way must stand without the other one having been asked before. */
+    private static void askedFirst() {
+        Check.due("tunnelByRounds first", 30, new StoneQuarry()::tunnelByRounds);
+        Check.due("slabsByCells first", 6, Check.rich()::slabsByCells);
+        Check.due("blockByHeights first", 9, Check.rich()::blockByHeights);
+        StoneQuarry x = new StoneQuarry();
+        x.tunnelByRounds();
+        x.setHardness(3, 0, 9);
+        x.setHardness(2, 0, 9);
+        for (int row = 0; row < 6; row++) {
+            x.setHardness(row, 3, 9);
+        }
+        Check.due("tunnelByRounds of harder rock", 34, x::tunnelByRounds);
+        Check.due("tunnelCost of harder rock", 34, x::tunnelCost);
     }
 
     private static void unchanged() {

@@ -155,6 +155,9 @@ final class WallTest {
         Check.due("veinCount(1)", 1, () -> x.veinCount(1));
         Check.due("veinCount(5): corners and row ends do not connect", 4, () -> x.veinCount(5));
         Check.due("veinCount(2)", 3, () -> x.veinCount(2));
+        Check.due("veinCount(2) again", 3, () -> x.veinCount(2));
+        x.veinSize(0, 0);
+        Check.due("veinCount(1) after veinSize", 1, () -> x.veinCount(1));
         Check.due("veinCount(3)", 1, () -> x.veinCount(3));
         Check.due("veinCount(9)", 0, () -> x.veinCount(9));
         for (int hardness : new int[] {0, 10, -5, Integer.MAX_VALUE, Integer.MIN_VALUE}) {
