@@ -407,11 +407,12 @@ public final class StoneQuarry {
             throw new IllegalArgumentException("the text is malformed");
         }
         before.copyFrom(state);
-        int failed = firstFailingCommand();
-        if (failed != NONE) {
-            state.copyFrom(before);
-            lastFailedCommand = failed;
-            throw new IllegalStateException("a command fails");
+        for (int index = 0; index < text.commandCount; index++) {
+            if (!carryOut(text.commandAt(index), index)) {
+                state.copyFrom(before);
+                lastFailedCommand = index;
+                throw new IllegalStateException("a command fails");
+            }
         }
         history.remember(before);
         return text.commandCount;
@@ -497,15 +498,6 @@ public final class StoneQuarry {
             }
         }
         return true;
-    }
-
-    private int firstFailingCommand() {
-        for (int index = 0; index < text.commandCount; index++) {
-            if (!carryOut(text.commandAt(index), index)) {
-                return index;
-            }
-        }
-        return NONE;
     }
 
     /** Carries out a command of the text if its method would not throw, and returns whether it did. */
@@ -645,6 +637,11 @@ public final class StoneQuarry {
             return isCell(cell) && hardness[cell] == OPEN;
         }
 
+        /** Whether a cell becomes open by a blast of which this power is left there. */
+        boolean breaksAt(int cell, int power) {
+            return isCell(cell) && hardness[cell] != OPEN && hardness[cell] <= power;
+        }
+
         int countOpen() {
             int open = 0;
             for (int cell = 0; cell < CELLS; cell++) {
@@ -739,10 +736,11 @@ public final class StoneQuarry {
         }
 
         int harden(int cell, int newHardness) {
-            int previous = hardnessAt(cell);
-            if (isCell(cell)) {
-                hardness[cell] = newHardness;
+            if (!isCell(cell)) {
+                return OPEN;
             }
+            int previous = hardness[cell];
+            hardness[cell] = newHardness;
             return previous;
         }
 
@@ -968,8 +966,10 @@ public final class StoneQuarry {
         }
 
         private void openAround(QuarryState state, int charge) {
+            int center = state.cellOf(charge);
+            int strength = state.strengthOf(charge);
             for (int cell = 0; cell < CELLS; cell++) {
-                if (!opened[cell] && reaches(state, charge, cell)) {
+                if (!opened[cell] && state.breaksAt(cell, strength - distance(cell, center))) {
                     opened[cell] = true;
                     openedCount++;
                 }
@@ -995,17 +995,14 @@ public final class StoneQuarry {
         }
 
         private void setOffReached(QuarryState state, int charge) {
+            int center = state.cellOf(charge);
+            int strength = state.strengthOf(charge);
             for (int other = 0; other < state.charges; other++) {
-                if (other != charge && reaches(state, charge, state.cellOf(other))) {
+                int cell = state.cellOf(other);
+                if (other != charge && state.breaksAt(cell, strength - distance(cell, center))) {
                     setOff(other);
                 }
             }
-        }
-
-        private static boolean reaches(QuarryState state, int charge, int cell) {
-            int hardness = state.hardnessAt(cell);
-            int power = state.strengthOf(charge) - distance(cell, state.cellOf(charge));
-            return hardness != OPEN && hardness <= power;
         }
     }
 

@@ -87,6 +87,11 @@ final class StoneTest {
         even.setPrice(10, 29);
         cut(even, 10, 30, 2);
         cut(even, 30, 90, 4);
+        StoneQuarry tied = new StoneQuarry();
+        tied.setPrice(1, 1);
+        tied.setPrice(3, 4);
+        tied.setPrice(4, 6);
+        cut(tied, 6, 8, 2);
     }
 
     private static void cutLengths() {

@@ -76,6 +76,9 @@ final class TunnelSlabBlockTest {
             slab(18, x);
             block(36, x);
         }
+        StoneQuarry edges = Check.wall("......", "555555", "555555", "555555", "555555", "......");
+        block(6, edges);
+        block(6, edges);
         StoneQuarry y = Check.rich();
         tunnel(5, y);
         y.save();
