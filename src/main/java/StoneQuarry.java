@@ -745,9 +745,9 @@ public final class StoneQuarry {
         }
 
         private void makeOpen(int cell) {
-            int yield = harden(cell, OPEN);
-            quarriedStone += yield;
-            stock += yield;
+            int tonnes = harden(cell, OPEN);
+            quarriedStone += tonnes;
+            stock += tonnes;
         }
 
         long digOut(int cell) {

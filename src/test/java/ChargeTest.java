@@ -57,22 +57,14 @@ final class ChargeTest {
         return x;
     }
 
-    private static String strengths(StoneQuarry x) {
-        StringBuilder all = new StringBuilder();
-        for (int charge = 0; charge < x.chargeCount(); charge++) {
-            all.append(x.chargeRow(charge)).append(x.chargeColumn(charge)).append(x.chargeStrength(charge)).append(' ');
-        }
-        return all.toString();
-    }
-
     private static void removeCharge() {
         StoneQuarry x = laid();
         Check.due("removeCharge(2)", 5, () -> x.removeCharge(2));
-        Check.due("charges", "011 122 344 451 502 ", () -> strengths(x));
+        Check.due("charges", "011 122 344 451 502 ", () -> Check.chargesOf(x));
         Check.due("removeCharge(0)", 4, () -> x.removeCharge(0));
-        Check.due("charges", "122 344 451 502 ", () -> strengths(x));
+        Check.due("charges", "122 344 451 502 ", () -> Check.chargesOf(x));
         Check.due("removeCharge(3)", 3, () -> x.removeCharge(3));
-        Check.due("charges", "122 344 451 ", () -> strengths(x));
+        Check.due("charges", "122 344 451 ", () -> Check.chargesOf(x));
         Check.fails("removeCharge(3) again", INDEX, () -> x.removeCharge(3));
         Check.due("nothing opened", 0, x::openCount);
         Check.due("removeCharge(1)", 2, () -> x.removeCharge(1));
@@ -89,7 +81,7 @@ final class ChargeTest {
         Check.due("chargeRow(5)", 5, () -> x.chargeRow(5));
         Check.due("chargeColumn(5)", 0, () -> x.chargeColumn(5));
         Check.due("ignite(2) opens nothing", 0, () -> x.ignite(2));
-        Check.due("charges", "011 122 344 451 502 ", () -> strengths(x));
+        Check.due("charges", "011 122 344 451 502 ", () -> Check.chargesOf(x));
     }
 
     private static void ignite() {
@@ -152,7 +144,7 @@ final class ChargeTest {
         }
         Check.due("nothing changed", 6, x::chargeCount);
         Check.due("ignite(0)", 5, () -> x.ignite(0));
-        Check.due("three are gone", "051 505 551 ", () -> strengths(x));
+        Check.due("three are gone", "051 505 551 ", () -> Check.chargesOf(x));
         backwards();
     }
 

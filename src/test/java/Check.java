@@ -1,7 +1,10 @@
 /** What the tests share: comparing answers, awaiting exceptions, typing texts, and ending with an exit code. */
 final class Check {
     private static final int MOST_SHOWN = 40;
+    private static final int MOST_SHOWN_OF_ONE = 3;
     private static int wrong = 0;
+    private static int wrongOfOne = 0;
+    private static String subject = "";
 
     interface Call {
         Object answer();
@@ -30,10 +33,17 @@ final class Check {
         }
     }
 
+    /** Puts these words ahead of the reports that follow, each subject's first ones being shown in any case. */
+    static void about(String words) {
+        subject = words;
+        wrongOfOne = 0;
+    }
+
     static void report(String text) {
         wrong++;
-        if (wrong <= MOST_SHOWN) {
-            System.out.println(text);
+        wrongOfOne++;
+        if (wrong <= MOST_SHOWN || !subject.isEmpty() && wrongOfOne <= MOST_SHOWN_OF_ONE) {
+            System.out.println(subject + text);
         }
     }
 
@@ -54,6 +64,42 @@ final class Check {
             line.append(x.lineAt(i));
         }
         return line.toString();
+    }
+
+    /** The wall as the cells answer it, row by row: a hardness, or "." for an open cell. */
+    static String wallOf(StoneQuarry x) {
+        StringBuilder all = new StringBuilder();
+        for (int row = 0; row < 6; row++) {
+            for (int column = 0; column < 6; column++) {
+                all.append(x.isOpen(row, column) ? "." : x.hardnessOf(row, column));
+            }
+            all.append(row < 5 ? " " : "");
+        }
+        return all.toString();
+    }
+
+    /** The charges in order, each as its row, its column and its strength. */
+    static String chargesOf(StoneQuarry x) {
+        StringBuilder all = new StringBuilder();
+        int count = x.chargeCount();
+        for (int charge = 0; charge < count; charge++) {
+            all.append(x.chargeRow(charge)).append(x.chargeColumn(charge)).append(x.chargeStrength(charge)).append(' ');
+        }
+        return all.toString();
+    }
+
+    /** Stone in stock, quarried stone, sold stone, coins. */
+    static String accountsOf(StoneQuarry x) {
+        return x.stone() + " " + x.quarried() + " " + x.sold() + " " + x.coins();
+    }
+
+    /** All that undo and restore bring back; costs up to 112 calls. */
+    static String stateOf(StoneQuarry x) {
+        StringBuilder all = new StringBuilder(wallOf(x)).append(';').append(chargesOf(x)).append(';');
+        for (int length = 1; length <= 10; length++) {
+            all.append(x.priceOf(length)).append(' ');
+        }
+        return all.append(';').append(accountsOf(x)).toString();
     }
 
     /** Sets the wall: a digit is a hardness, "." a cell that is opened; costs at most three calls a cell. */

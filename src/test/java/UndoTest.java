@@ -12,23 +12,6 @@ final class UndoTest {
         Check.end();
     }
 
-    private static String stateOf(StoneQuarry x) {
-        StringBuilder all = new StringBuilder();
-        for (int row = 0; row < 6; row++) {
-            for (int column = 0; column < 6; column++) {
-                all.append(x.isOpen(row, column) ? 0 : x.hardnessOf(row, column));
-            }
-        }
-        for (int charge = 0; charge < x.chargeCount(); charge++) {
-            all.append(' ').append(x.chargeRow(charge)).append(x.chargeColumn(charge)).append(x.chargeStrength(charge));
-        }
-        for (int length = 1; length <= 10; length++) {
-            all.append(',').append(x.priceOf(length));
-        }
-        return all.append(';').append(x.stone()).append(';').append(x.quarried()).append(';').append(x.sold())
-            .append(';').append(x.coins()).toString();
-    }
-
     private interface Change {
         Object on(StoneQuarry x);
     }
@@ -37,13 +20,13 @@ final class UndoTest {
     private static void undone(String call, Change modification) {
         StoneQuarry x = Check.rich();
         x.addCharge(5, 5, 8);
-        String before = stateOf(x);
+        String before = Check.stateOf(x);
         modification.on(x);
-        if (stateOf(x).equals(before)) {
+        if (Check.stateOf(x).equals(before)) {
             Check.report(call + " changed nothing");
         }
         int left = x.undo();
-        Check.due("the state after " + call + " and undo", before, () -> stateOf(x));
+        Check.due("the state after " + call + " and undo", before, () -> Check.stateOf(x));
         Check.due("undos left after " + call, 5, () -> left);
     }
 
@@ -108,15 +91,15 @@ final class UndoTest {
         StoneQuarry x = Check.rich();
         x.addCharge(5, 5, 8);
         x.addCharge(5, 0, 2);
-        String saved = stateOf(x);
+        String saved = Check.stateOf(x);
         Check.due("save", 2, x::save);
-        Check.due("save is no modification", saved, () -> stateOf(x));
+        Check.due("save is no modification", saved, () -> Check.stateOf(x));
         x.ignite(0);
         x.setPrice(1, 77);
         x.sell(9);
         x.dig(4, 1);
         Check.due("restore", 2, x::restore);
-        Check.due("the state after restore", saved, () -> stateOf(x));
+        Check.due("the state after restore", saved, () -> Check.stateOf(x));
         Check.fails("undo after restore", STATE, x::undo);
     }
 
