@@ -276,7 +276,7 @@ final class ChargeEdgesTest {
         Sentence.test(19, "Throws `NoSuchElementException` if there are no charges", () -> {
             Refusal.due("bestCharge", NoSuchElementException.class, StoneQuarry::new, StoneQuarry::bestCharge);
             Refusal.due("bestCharge", NoSuchElementException.class, ChargeEdgesTest::noneLeft, StoneQuarry::bestCharge);
-            Refusal.due("bestCharge", NoSuchElementException.class, () -> Quarries.with(Check.rich(), "price 1 9"),
+            Refusal.due("bestCharge", NoSuchElementException.class, () -> Quarries.furnished(Check.rich()),
                 StoneQuarry::bestCharge);
         });
     }
@@ -296,6 +296,11 @@ final class ChargeEdgesTest {
         last.removeCharge(0);
         last.addCharge(0, 5, 6);
         Check.due("the last two are alike", 4, last::bestCharge);
+        last.removeCharge(0);
+        last.addCharge(3, 3, 5);
+        Check.due("a weaker one behind the best", 3, last::bestCharge);
+        last.undo();
+        last.undo();
         last.setHardness(1, 5, 6);
         last.setHardness(0, 0, 7);
         Check.due("the last two are alike, with one cell less", 4, last::bestCharge);

@@ -1,7 +1,5 @@
 /** Quarries to start from, each made by few of the 512 calls of an object. */
 final class Quarries {
-    static final int[] WRONG_NUMBERS = {-1, -6, Integer.MIN_VALUE, Integer.MAX_VALUE};
-
     /** Just outside on each side, and places that a row times six plus a column would wrap into the wall. */
     static final int[][] OUTSIDE = {{-1, 0}, {6, 0}, {0, -1}, {0, 6}, {-1, 6}, {1, -6}, {6, -1}, {0, 35}, {-1, 5},
         {5, 6}, {6, 6}, {-1, -1}, {Integer.MIN_VALUE, 0}, {Integer.MAX_VALUE, 0}, {0, Integer.MIN_VALUE},
@@ -14,10 +12,10 @@ final class Quarries {
     }
 
     /**
-     * Something of everything: 16 open cells, three charges of four, two prices, accounts, more modifications than
-     * can be undone, a snapshot of an earlier state, a failed and a malformed text, a line.
+     * Something of everything but texts: 16 open cells, three charges of four, two prices, accounts, more
+     * modifications than can be undone, a snapshot of an earlier state, a line.
      */
-    static StoneQuarry busy() {
+    static StoneQuarry worked() {
         StoneQuarry x = Check.rich();
         x.addCharge(5, 5, 2);
         x.save();
@@ -30,11 +28,15 @@ final class Quarries {
         x.dig(5, 0);
         x.sell(1);
         x.setHardness(4, 4, 1);
-        Check.type(x, "sell 1;sell 0");
-        Check.outcome(x::execute);
-        Check.type(x, "rock x");
-        Check.outcome(x::execute);
         x.writeRow(0);
+        return x;
+    }
+
+    /** The worked quarry, behind a text of which the second command failed, and one with an error at position 5. */
+    static StoneQuarry busy() {
+        StoneQuarry x = worked();
+        Check.outcome(() -> Check.execute(x, "sell 1;sell 0"));
+        Check.outcome(() -> Check.execute(x, "rock x"));
         return x;
     }
 
@@ -46,6 +48,14 @@ final class Quarries {
     /** The busy quarry, with a well-formed text of 60 characters in the buffer. */
     static StoneQuarry fullBuffer() {
         return with(busy(), FULL_TEXT);
+    }
+
+    /** Adds a snapshot that is not the state any more, a line and a text, for a refused call to spoil. */
+    static StoneQuarry furnished(StoneQuarry x) {
+        x.save();
+        x.setPrice(9, 1);
+        x.writeRow(0);
+        return with(x, "price 3 4");
     }
 
     static StoneQuarry with(StoneQuarry x, String text) {

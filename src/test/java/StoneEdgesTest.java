@@ -162,6 +162,13 @@ final class StoneEdgesTest {
         pieces(30, even, 30);
         even.setPrice(2, 11);
         pieces(15, even, 29);
+        StoneQuarry tied = onlyPrice(1, 1);
+        tied.setPrice(3, 4);
+        tied.setPrice(4, 6);
+        pieces(2, tied, 6);
+        tied.setPrice(2, 3);
+        tied.setPrice(5, 7);
+        pieces(2, tied, 8);
     }
 
     // Promise 31.
@@ -169,6 +176,7 @@ final class StoneEdgesTest {
     /** So many tonnes, 1 to 29, are left in stock; pieces of 10 tonnes bring 30 coins. */
     private static StoneQuarry stock(int tonnes) {
         StoneQuarry x = Check.rich();
+        x.addCharge(5, 5, 1);
         x.sell(15);
         x.sell(30 - tonnes);
         return x;
@@ -200,7 +208,8 @@ final class StoneEdgesTest {
     }
 
     private static void tooLittle(int tonnes) {
-        Refusal.due("sell(" + (tonnes + 1) + ") of " + tonnes, TOO_LITTLE, () -> stock(tonnes), x -> x.sell(tonnes + 1));
+        Refusal.due("sell(" + (tonnes + 1) + ") of " + tonnes, TOO_LITTLE, () -> Quarries.furnished(stock(tonnes)),
+            x -> x.sell(tonnes + 1));
         StoneQuarry x = stock(tonnes);
         Check.due("sell(" + tonnes + ") of as much", tonnes / 10 * 30, () -> x.sell(tonnes));
         Check.due("stone", 0, x::stone);
@@ -266,7 +275,7 @@ final class StoneEdgesTest {
         });
         Sentence.test(36, "Throws `ArithmeticException` if all cells are open", () -> {
             Refusal.due("meanHardness", ArithmeticException.class, Quarries::allOpen, StoneQuarry::meanHardness);
-            Refusal.due("meanHardness", ArithmeticException.class, () -> Quarries.with(mostSold(), "price 1 1"),
+            Refusal.due("meanHardness", ArithmeticException.class, () -> Quarries.furnished(mostSold()),
                 StoneQuarry::meanHardness);
         });
     }

@@ -198,6 +198,7 @@ final class TextEdgesTest {
 
     private static void malformed(int position, String text) {
         Refusal.ofText(text, ARGUMENT, Quarries::busy);
+        Refusal.ofText(text, ARGUMENT, Quarries::worked);
         StoneQuarry x = Quarries.busy();
         Check.outcome(() -> Check.execute(x, text));
         Check.due("errorPosition of \"" + text + "\"", position, x::errorPosition);
@@ -222,6 +223,9 @@ final class TextEdgesTest {
     }
 
     private static void failingCommands() {
+        Refusal.ofText("sell 0", STATE, Quarries::worked);
+        Refusal.ofText("sell 1;rock 5 1 9;dig 5 1;ignite 1;remove 0;price 7 7;sell 0", STATE, Quarries::worked);
+        Refusal.ofText("price 1 1;sell 1", STATE, StoneQuarry::new);
         String[] commands = EIGHT_COMMANDS.split(";");
         for (int index = 0; index < commands.length; index++) {
             String good = commands[index];
@@ -256,14 +260,14 @@ final class TextEdgesTest {
     }
 
     private static StoneQuarry onceFailed() {
-        StoneQuarry x = Check.rich();
+        StoneQuarry x = Quarries.worked();
         Check.execute(x, "price 1 1");
         Check.outcome(() -> Check.execute(x, "sell 0"));
         return Quarries.with(x, "price 2 2");
     }
 
     private static StoneQuarry onceMalformed() {
-        StoneQuarry x = Check.rich();
+        StoneQuarry x = Quarries.worked();
         Check.execute(x, "price 1 1");
         Check.outcome(() -> Check.execute(x, "sell 0;"));
         return Quarries.with(x, "price 2 2");

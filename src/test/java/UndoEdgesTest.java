@@ -66,6 +66,12 @@ final class UndoEdgesTest {
         return x;
     }
 
+    private static StoneQuarry neverSaved() {
+        StoneQuarry x = Quarries.sixCharges();
+        x.writeCharge(5);
+        return Quarries.with(x, "price 1 2");
+    }
+
     private static void lastOfMany(int modifications) {
         StoneQuarry x = priced(modifications);
         int kept = Math.max(0, modifications - 8);
@@ -177,7 +183,7 @@ final class UndoEdgesTest {
         });
         Sentence.test(48, "Throws `IllegalStateException` if there is no snapshot", () -> {
             Refusal.due("restore at first", STATE, StoneQuarry::new, StoneQuarry::restore);
-            Refusal.due("restore of what can be undone", STATE, Quarries::sixCharges, StoneQuarry::restore);
+            Refusal.due("restore of what can be undone", STATE, UndoEdgesTest::neverSaved, StoneQuarry::restore);
             Refusal.due("restore with a text", STATE, () -> Quarries.with(Check.rich(), "price 1 2"),
                 StoneQuarry::restore);
         });

@@ -145,6 +145,7 @@ final class WallEdgesTest {
         StoneQuarry x = Check.wall("555555", "555555", "55.955", "555555", "555555", "555555");
         x.setPrice(1, price);
         x.sell(1);
+        x.addCharge(5, 5, 1);
         return x;
     }
 
@@ -192,8 +193,8 @@ final class WallEdgesTest {
     }
 
     private static void digWithoutCoinsRefused() {
-        Refusal.due("dig rock of 9 with 8 coins", TOO_LITTLE, () -> withCoins(8), x -> x.dig(2, 3));
-        Refusal.due("dig rock of 5 with 4 coins", TOO_LITTLE, () -> withCoins(4), x -> x.dig(5, 0));
+        Refusal.due("dig rock of 9 with 8 coins", TOO_LITTLE, () -> Quarries.furnished(withCoins(8)), x -> x.dig(2, 3));
+        Refusal.due("dig rock of 5 with 4 coins", TOO_LITTLE, () -> Quarries.furnished(withCoins(4)), x -> x.dig(5, 0));
         Refusal.due("dig new rock", TOO_LITTLE, StoneQuarry::new, x -> x.dig(0, 0));
         Refusal.due("dig the softest rock without coins", TOO_LITTLE, () -> Quarries.rockOf(1), x -> x.dig(5, 0));
         Check.due("dig rock of 5 with 5 coins", 0L, () -> withCoins(5).dig(5, 0));

@@ -60,6 +60,10 @@ final class WaysEdgesTest {
         due(1, way, Check.wall(ROCK_ROW, ROCK_ROW, ROCK_ROW, ROCK_ROW, ".55555", ".55555"));
         due(0, way, Check.wall("55555.", ".55555", ROCK_ROW, ROCK_ROW, ROCK_ROW, ROCK_ROW));
         due(0, way, Check.wall(".5555.", ROCK_ROW, ROCK_ROW, ROCK_ROW, ROCK_ROW, ".5555."));
+        due(1, way, Check.wall(ROCK_ROW, "5..555", ROCK_ROW, ROCK_ROW, ROCK_ROW, ROCK_ROW));
+        due(1, way, Check.wall(ROCK_ROW, "55..55", ROCK_ROW, ROCK_ROW, ROCK_ROW, ROCK_ROW));
+        due(1, way, Check.wall(ROCK_ROW, "5.5555", "5.5555", ROCK_ROW, ROCK_ROW, ROCK_ROW));
+        due(1, way, Check.wall(ROCK_ROW, "55.555", "55.555", ROCK_ROW, ROCK_ROW, ROCK_ROW));
         due(1, way, Check.wall("5...55", ROCK_ROW, ROCK_ROW, ROCK_ROW, ROCK_ROW, ROCK_ROW));
         due(2, way, Check.wall("5....5", ROCK_ROW, ROCK_ROW, ROCK_ROW, ROCK_ROW, ROCK_ROW));
         due(16, way, Check.wall("5.....", OPEN_ROW, OPEN_ROW, OPEN_ROW, OPEN_ROW, ".....5"));
