@@ -78,6 +78,7 @@ final class CommandTerms {
         same("charge 0 5 9", x -> x.addCharge(0, 5, 9));
         same("charge 5 1 2", x -> x.addCharge(5, 1, 2));
         same("remove 0", x -> x.removeCharge(0));
+        same("remove 1", x -> x.removeCharge(1));
         same("remove 2", x -> x.removeCharge(2));
         same("ignite 0", x -> x.ignite(0));
         same("ignite 1", x -> x.ignite(1));

@@ -121,6 +121,10 @@ final class WallEdgesTest {
         Check.due("dig the hardest rock", 80L, () -> x.dig(5, 1));
         Check.due("accounts", "55 85 30 80", () -> Check.accountsOf(x));
         Check.due("wall", ".....5 ....55 ...555 ..5555 .55555 ..5555", () -> Check.wallOf(x));
+        StoneQuarry alone = withCoins(10);
+        Check.due("dig in column 0 without open neighbours", 5L, () -> alone.dig(0, 0));
+        Check.due("dig beside it", 0L, () -> alone.dig(0, 1));
+        Check.due("wall", "..5555 555555 55.955 555555 555555 555555", () -> Check.wallOf(alone));
     }
 
     private static void digInEndRows() {
