@@ -25,7 +25,7 @@ final class Sentence {
     static void test(int section, String words, Runnable test) {
         Check.about(nameOf(section) + ", \"" + words + "\": ");
         NAMED.add(section + words);
-        if (!of(section).contains(words)) {
+        if (!SENTENCES.isEmpty() && !of(section).contains(words)) {
             Check.report("the document has no such sentence");
         }
         try {
@@ -71,6 +71,7 @@ final class Sentence {
         return section == WHAT_IT_IS ? "What it is" : section == TERMS ? "Terms" : "Promise " + section;
     }
 
+    /** Empty where there is no document: the tests then run without comparing their sentences. */
     private static Map<Integer, List<String>> readDocument() {
         Map<Integer, List<String>> sentences = new HashMap<>();
         for (String section : read().split("\n## ")) {
@@ -84,10 +85,14 @@ final class Sentence {
     }
 
     private static String read() {
+        if (!Files.exists(DOCUMENT)) {
+            System.out.println("no " + DOCUMENT + " here: the sentences that the tests name are not compared with it");
+            return "";
+        }
         try {
             return Files.readString(DOCUMENT);
         } catch (IOException e) {
-            throw new IllegalStateException("the tests are run from the project's folder, with " + DOCUMENT, e);
+            throw new IllegalStateException(DOCUMENT + " can't be read", e);
         }
     }
 
